@@ -44,6 +44,8 @@ public final class PromiseTests {
         queueKeepsPlace();
         queueKeepsLicences();
         keptAhead();
+        keptBesideAllBookings();
+        keptBehindManyEnds();
         nodesGoToFewestRacks();
         nodesGoAsManyAsFree();
         told();
@@ -785,6 +787,41 @@ public final class PromiseTests {
         due("more than there is", w.blocked(0), 0);
         due("nothing kept", w.blocked(1), NONE);
         due("nothing kept, so all that fit begin", w.told(1, 0), 1);
+    }
+
+    private static void keptBesideAllBookings() {
+        GreatMachine x = with(4);
+        for (int i = 0; i < 8; i++) {
+            due("book", x.book(1, 20 + i, 21 + i), i);
+        }
+        plain(x, 3, 4);
+        plain(x, 4, 5);
+        plain(x, 1, 5);
+        plain(x, 1, 4);
+        x.ticks(1);
+        due("blocked", x.blocked(0), 1);
+        due("kept behind eight bookings", x.blocked(1), 4);
+        due("would delay it", x.told(2, 0), 0);
+        due("would not", x.told(3, 0), 1);
+        due("still eight", x.count(5), 8);
+        due("kept is not taken", x.taken(0, 4), 0);
+    }
+
+    private static void keptBehindManyEnds() {
+        GreatMachine x = with(16, 16, 16, 16);
+        for (int i = 1; i < 30; i++) {
+            plain(x, 1, i);
+        }
+        for (int i = 0; i < 8; i++) {
+            due("book", x.book(1, 30 + 2 * i, 31 + 2 * i), i);
+        }
+        plain(x, 64, 2);
+        x.ticks(1);
+        due("blocked", x.blocked(0), 29);
+        due("kept behind 29 jobs and 8 bookings", x.blocked(1), 45);
+        due("foreseen, too", x.foreseen(29), 45);
+        x.ticks(45);
+        due("it begins then", x.told(29, 1), 45);
     }
 
     private static void nodesGoToFewestRacks() {
