@@ -165,6 +165,16 @@ public final class SentenceTests {
         y.drain(0, false);
         y.ticks(1);
         due("no longer drained: it begins there", y.on(1, 0), 1);
+        for (int nodes = 1; nodes <= 5; nodes++) {
+            GreatMachine w = with(16, 4, 2);
+            w.drain(0, true);
+            w.drain(2, true);
+            plain(w, nodes, 9);
+            w.ticks(1);
+            due(nodes + " nodes: none on the first rack", w.on(0, 0), 0);
+            due(nodes + " nodes: on the one that is not drained", w.on(0, 1), nodes <= 4 ? nodes : 0);
+            due(nodes + " nodes: none on the last rack", w.on(0, 2), 0);
+        }
         GreatMachine z = with(2);
         plain(z, 2, 3);
         z.ticks(1);
@@ -1234,6 +1244,11 @@ public final class SentenceTests {
         y.ticks(1);
         due("LEFT when it began", y.foreseen(1), 11);
         due("it began then itself", y.foreseen(0), 9);
+        plain(y, 1, 5);
+        y.behind(2, 0);
+        due("it is done when it ran what was LEFT, not its LIMIT: one behind it", y.foreseen(2), 16);
+        y.cancel(1);
+        due("and without the one ahead", y.foreseen(2), 11);
         GreatMachine z = with(4, 4);
         z.ticks(6);
         plain(z, 6, 10);
