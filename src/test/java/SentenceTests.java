@@ -268,6 +268,13 @@ public final class SentenceTests {
         due("a seventh of 100", x.account(100), FULL);
         due("accounts", x.count(1), 6);
         due("there is no account 6", x.used(6), UNKNOWN);
+        GreatMachine y = with(4);
+        plain(y, 4, 9);
+        y.ticks(3);
+        due("that of one that is there", y.used(0), 12);
+        due("another, when time went by", y.account(1), 1);
+        due("0 at first, whatever others used", y.used(1), 0);
+        due("and theirs stays", y.used(0), 12);
     }
 
     private static void terms1Jobs() {
@@ -1161,6 +1168,12 @@ public final class SentenceTests {
         x.ticks(1);
         due("they begin again", x.told(15, 1), 1);
         due("the rack is as good as before", x.count(3), 16);
+        x.drain(0, true);
+        due("also if it is drained", x.fail(0), 16);
+        due("it stays drained", x.count(7), 3);
+        x.ticks(1);
+        due("so none of those 15 begins on it", x.free(0), 16);
+        due("it was drained", x.drain(0, false), 1);
         GreatMachine y = with(2, 2);
         plain(y, 2, 9);
         plain(y, 2, 9);
@@ -1533,6 +1546,17 @@ public final class SentenceTests {
         due("1001", x.half(1001), OUTSIDE);
         due("5: it was 1000", x.half(5), 1000);
         due("it was 5", x.half(5), 5);
+        GreatMachine y = with(3);
+        plain(y, 3, 9);
+        y.ticks(6);
+        due("2 at 6", y.half(2), 100);
+        due("USED becomes half in a tick, not when HALF is told", y.used(0), 18);
+        due("3 at 6", y.half(3), 2);
+        due("USED as it was", y.used(0), 18);
+        y.ticks(2);
+        due("up to 8, which is no multiple of 3", y.used(0), 24);
+        y.ticks(1);
+        due("27 at 9, cut", y.used(0), 13);
     }
 
     private static void promise7Account() {
@@ -2054,6 +2078,28 @@ public final class SentenceTests {
         due("job 0 may be the one", y.blocked(0), 0);
         due("of several ticks the latest", y.ticks(3), 5);
         due("it is", y.blocked(0), 0);
+        GreatMachine z = with(2);
+        plain(z, 2, 5);
+        plain(z, 2, 5);
+        z.ticks(1);
+        z.rack(16);
+        z.account(1);
+        plain(z, 1, 1);
+        z.licences(0);
+        z.half(1);
+        z.drain(0, true);
+        z.drain(0, false);
+        z.fail(0);
+        z.behind(1, 0);
+        z.book(1, 9, 10);
+        z.unbook(0);
+        z.foreseen(1);
+        z.cancel(0);
+        due("until the next tick, whatever else is told", z.blocked(0), 1);
+        due("what was kept, too", z.blocked(1), 5);
+        z.ticks(1);
+        due("then none", z.blocked(0), NONE);
+        due("nothing is kept", z.blocked(1), NONE);
     }
 
     private static void promise19Taken() {
