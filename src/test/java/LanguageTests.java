@@ -1,15 +1,24 @@
 import java.io.IOException;
+import java.lang.reflect.Field;
+import java.lang.reflect.Method;
+import java.lang.reflect.Modifier;
 import java.nio.file.Files;
 import java.nio.file.Path;
+import java.util.HashSet;
 import java.util.List;
+import java.util.Set;
 import java.util.regex.Matcher;
 import java.util.regex.Pattern;
 
-/** What ../shared/LANGUAGE.md leaves out and can be seen in the text of the class. */
+/** What ../shared/LANGUAGE.md leaves out and can be seen in the text of the class or in its members. */
 public final class LanguageTests {
     private static final String SOURCE = "src/main/java/GreatMachine.java";
     private static final List<String> IMPORTS =
             List.of("import java.util.ArrayList;", "import java.util.List;", "import java.util.Arrays;", "import java.util.Iterator;");
+    private static final Set<String> LIBRARY = Set.of("Integer.compare", "Integer.max", "Integer.min", "Integer.abs",
+            "Integer.bitCount", "Long.compare", "Long.max", "Long.min", "Long.abs", "Long.bitCount", "Math.abs", "Math.max",
+            "Math.min", "Math.floorDiv", "Math.floorMod", "System.arraycopy", "Arrays.copyOf", "Arrays.copyOfRange",
+            "Arrays.fill", "List.of");
     private static int wrong = 0;
 
     public static void main(String[] args) throws IOException {
@@ -30,6 +39,8 @@ public final class LanguageTests {
             say("more than twelve classes");
         }
         methods(code);
+        library(code);
+        members();
         System.out.println(wrong == 0 ? "the language is kept" : wrong + " faults of language");
         if (wrong != 0) {
             System.exit(1);
@@ -67,6 +78,58 @@ public final class LanguageTests {
             if (found.group(2).split(",").length > 7) {
                 say("more than seven parameters: " + lines[i].trim());
             }
+        }
+    }
+
+    /** Only static functions begin with the name of a class: each must be one of the library. */
+    private static void library(String code) {
+        Matcher call = Pattern.compile("\\b([A-Z]\\w*\\.\\w+)\\s*\\(").matcher(code);
+        while (call.find()) {
+            if (!LIBRARY.contains(call.group(1))) {
+                say("not of the library: " + call.group(1));
+            }
+        }
+    }
+
+    private static void members() {
+        Set<String> face = new HashSet<>();
+        for (Method method : GreatMachine.class.getMethods()) {
+            if (method.getDeclaringClass() == GreatMachine.class) {
+                face.add(method.getName());
+            }
+        }
+        for (Method method : GreatMachine.class.getDeclaredMethods()) {
+            if (!Modifier.isPublic(method.getModifiers()) && face.contains(method.getName())) {
+                say("bears the name of a public one: " + method);
+            }
+        }
+        fields(GreatMachine.class);
+        for (Class<?> inside : GreatMachine.class.getDeclaredClasses()) {
+            if (!Modifier.isStatic(inside.getModifiers()) || Modifier.isPublic(inside.getModifiers())
+                    || Modifier.isProtected(inside.getModifiers()) || inside.getDeclaredClasses().length > 0) {
+                say("a class inside that is not static, or seen from outside, or holds others: " + inside);
+            }
+            fields(inside);
+        }
+    }
+
+    private static void fields(Class<?> where) {
+        int own = 0;
+        for (Field field : where.getDeclaredFields()) {
+            if (Modifier.isStatic(field.getModifiers())) {
+                if (!Modifier.isFinal(field.getModifiers())) {
+                    say("static, but not final: " + field);
+                }
+            } else {
+                own++;
+            }
+            Class<?> of = field.getType().isArray() ? field.getType().getComponentType() : field.getType();
+            if (!of.isPrimitive() && of.getNestHost() != GreatMachine.class) {
+                say("of a type that the class needs not: " + field);
+            }
+        }
+        if (own > 20) {
+            say("more than twenty fields: " + where);
         }
     }
 }
